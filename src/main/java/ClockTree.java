@@ -347,10 +347,6 @@ public final class ClockTree {
             trace[slot] = itsTrace;
         }
 
-        void erase(int slot) {
-            write(slot, NONE, 0, 0);
-        }
-
         boolean isSame(int slot, Words other, int otherSlot) {
             return quality[slot] == other.quality[otherSlot]
                     && hops[slot] == other.hops[otherSlot]
@@ -407,7 +403,6 @@ public final class ClockTree {
             failedElements = from.failedElements;
             failedLinks = from.failedLinks;
             lost = from.lost;
-            moved = from.moved;
         }
 
         boolean isWhole(int e) {
@@ -452,8 +447,7 @@ public final class ClockTree {
             everLocked &= ~(1 << e);
             for (int p = 0; p < PORTS; p++) {
                 int slot = slotOf(e, p);
-                got.erase(slot);
-                sent.erase(slot);
+                sent.write(slot, NONE, 0, 0);
                 age[slot] = STALE;
                 usableFor[slot] = 0;
             }

@@ -97,6 +97,9 @@ public final class ModelTest {
                 makeElement(e);
             }
         }
+        if (random.nextInt(3) == 0) {
+            makeRing();
+        }
         int wanted = random.nextInt(2 * size + 2);
         for (int i = 0; i < wanted; i++) {
             makeLink();
@@ -123,16 +126,27 @@ public final class ModelTest {
     }
 
     private void makeLink() {
-        int a = anElement();
-        int p = within(0, 3);
-        int b = anElement();
-        int q = within(0, 3);
+        joinPorts(anElement(), within(0, 3), anElement(), within(0, 3));
+    }
+
+    private void joinPorts(int a, int p, int b, int q) {
         long[] number = {THROWN_ARGUMENT};
         call("link(" + a + ", " + p + ", " + b + ", " + q + ")", () -> {
             number[0] = tree.link(a, p, b, q);
             return number[0];
         }, () -> model.link(a, p, b, q));
         links = number[0] < 24 ? (int) number[0] + 1 : links;
+    }
+
+    /** A ring in which each may take its time from the one before it alone. */
+    private void makeRing() {
+        for (int e = 0; e < size; e++) {
+            int here = e;
+            int next = (e + 1) % size;
+            joinPorts(e, 0, next, 1);
+            call("lockout(" + e + ", 0, true)",
+                    () -> bit(tree.lockout(here, 0, true)), () -> bit(model.lockout(here, 0, true)));
+        }
     }
 
     private void makeSource() {

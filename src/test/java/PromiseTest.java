@@ -37,6 +37,11 @@ public final class PromiseTest {
         checks();
         checkOfTwoLinks();
         checkChangesNothing();
+        checkPassesItsRounds();
+        checkPassesLongestRestore();
+        checkLosesWords();
+        checkKeepsWords();
+        checkObeysNewCommands();
         findingsAtMost();
         due.end();
     }
@@ -882,6 +887,103 @@ public final class PromiseTest {
                 due.is("21: phase", x.phase(e), y.phase(e));
                 due.is("21: sends", x.sends(e, 0), y.sends(e, 0));
             }
+        }
+    }
+
+    /**
+     * Elements 0 to 4 in a ring, round which one good word runs for ever, a link each round: behind
+     * round r only element (r - 1) % 5 is locked. Two rounds have gone by. Nobody may take the time
+     * of element 5, so that all others are starved when link 0, between 6 and 7, fails.
+     */
+    private static ClockTree runningWord() {
+        ClockTree x = new ClockTree();
+        for (int e = 0; e < 8; e++) {
+            x.element(e, 0, 0, 0);
+        }
+        x.link(6, 0, 7, 0);
+        for (int e = 0; e < 5; e++) {
+            x.link(e, 0, (e + 1) % 5, 1);
+            x.lockout(e, 0, true);
+        }
+        x.link(5, 0, 0, 2);
+        x.lockout(0, 2, true);
+        x.source(5, 3, 4, 0);
+        x.tracing(false);
+        x.source(0, 3, 1, 0);
+        x.rounds(1);
+        x.source(0, 3, NONE, 0);
+        x.rounds(1);
+        return x;
+    }
+
+    /** By link 0 all of the ring are starved but for one element (or NONE). */
+    private static void starvedByFirstLink(ClockTree x, int but) {
+        x.check();
+        int k = 0;
+        for (int e = 0; e < 5; e++) {
+            if (e != but) {
+                due.is("21: by the first link, but for " + but, x.finding(k, 0), 0);
+                due.is("21: in the ring, but for " + but, x.finding(k, 1), e);
+                k++;
+            }
+        }
+        due.is("21: by the next link", x.finding(k, 0), 1);
+    }
+
+    private static void checkPassesItsRounds() {
+        ClockTree x = runningWord();
+        state(x, 0, 2, NONE);
+        state(x, 1, 1, 1);
+        starvedByFirstLink(x, (2 + 96 - 1) % 5);
+        x.rounds(1);
+        starvedByFirstLink(x, (3 + 96 - 1) % 5);
+    }
+
+    private static void checkPassesLongestRestore() {
+        ClockTree x = runningWord();
+        x.restore(6, 1);
+        x.restore(7, 3);
+        starvedByFirstLink(x, (2 + 4 * 27 - 1) % 5);
+        x.restore(6, 10);
+        starvedByFirstLink(x, (2 + 4 * 34 - 1) % 5);
+    }
+
+    private static void checkLosesWords() {
+        ClockTree x = runningWord();
+        x.lose(2, true);
+        starvedByFirstLink(x, (2 + 96 - 1) % 5);
+        x.lose(2, false);
+        starvedByFirstLink(x, NONE);
+        x.rounds(1);
+        starvedByFirstLink(x, NONE);
+    }
+
+    /** The word that element 1 has lasts, since the next one is lost: now two are locked at once. */
+    private static void checkKeepsWords() {
+        ClockTree x = runningWord();
+        x.lose(1, false);
+        x.check();
+        int[] starved = {0, 3, 4};
+        for (int k = 0; k < 3; k++) {
+            due.is("21: by the first link", x.finding(k, 0), 0);
+            due.is("21: not 1 nor 2", x.finding(k, 1), starved[k]);
+        }
+        due.is("21: by the next link", x.finding(3, 0), 1);
+    }
+
+    private static void checkObeysNewCommands() {
+        ClockTree x = pair();
+        x.element(2, 0, 0, 0);
+        x.element(3, 0, 0, 0);
+        x.link(1, 1, 2, 0);
+        x.rounds(50);
+        due.is("21: all is well", x.check(), 0);
+        x.command(1, 0, 3);
+        due.is("21: three failures, which do nothing to it", x.check(), 4);
+        int[][] want = {{1, 1}, {102, 1}, {103, 1}, {103, 2}};
+        for (int k = 0; k < 4; k++) {
+            due.is("21: by what, after a command", x.finding(k, 0), want[k][0]);
+            due.is("21: who, after a command", x.finding(k, 1), want[k][1]);
         }
     }
 
