@@ -214,7 +214,7 @@ public final class ClockTree {
     public int check() {
         findings = 0;
         int rounds = 4 * (LINKS + plan.longestRestore());
-        for (int link = 0; link < plan.links; link++) {
+        for (int link = 0; link < plan.links && findings < MOST_FINDINGS; link++) {
             if (flow.isLinkWhole(link)) {
                 trial.copy(flow);
                 trial.setLinkFailed(link, true);
@@ -222,7 +222,7 @@ public final class ClockTree {
                 findStarved(link);
             }
         }
-        for (int e = 0; e < ELEMENTS; e++) {
+        for (int e = 0; e < ELEMENTS && findings < MOST_FINDINGS; e++) {
             if (flow.isWhole(e)) {
                 trial.copy(flow);
                 trial.setElementFailed(e, true);
