@@ -308,7 +308,11 @@ public final class ClockTree {
         }
 
         boolean isTaken(int slot) {
-            return linkOf[slot] != NONE || sourceQuality[slot] != NONE;
+            return linkOf[slot] != NONE || hasSource(slot);
+        }
+
+        boolean hasSource(int slot) {
+            return sourceQuality[slot] != NONE;
         }
 
         int join(int first, int second) {
@@ -370,6 +374,8 @@ public final class ClockTree {
         final Plan plan;
         final Words got = new Words();
         final Words sent = new Words();
+        /** What each slot offers in the round that goes by; no round looks at an earlier one's. */
+        final Words offered = new Words();
         final int[] age = new int[SLOTS];
         final int[] usableFor = new int[SLOTS];
         final int[] condition = new int[ELEMENTS];
@@ -485,6 +491,7 @@ public final class ClockTree {
                 if (plan.linkOf[slot] != NONE) {
                     hear(slot);
                 }
+                weigh(slot);
                 countUsable(e, slot);
             }
         }
@@ -506,6 +513,16 @@ public final class ClockTree {
                     && sent.quality[from] != NONE && (lost >> from & 1L) == 0L;
         }
 
+        private void weigh(int slot) {
+            if (plan.hasSource(slot)) {
+                offered.write(slot, plan.sourceQuality[slot], 0, 0);
+            } else if (age[slot] < STALE) {
+                offered.write(slot, got.quality[slot], got.hops[slot], got.trace[slot]);
+            } else {
+                offered.write(slot, NONE, 0, 0);
+            }
+        }
+
         private void countUsable(int e, int slot) {
             int count = isUsable(e, slot) ? Math.min(usableFor[slot] + 1, LONG_USABLE) : 0;
             moved = moved || count != usableFor[slot];
@@ -513,14 +530,9 @@ public final class ClockTree {
         }
 
         private boolean isUsable(int e, int slot) {
-            if (plan.lockedOut[slot]) {
-                return false;
-            }
-            if (hasSource(slot)) {
-                return true;
-            }
-            return age[slot] < STALE && got.quality[slot] < DONT_USE
-                    && !(plan.tracing && (got.trace[slot] >> e & 1) == 1);
+            boolean isGood = isWithin(offered.quality[slot], 0, DONT_USE - 1);
+            boolean isOwn = (offered.trace[slot] >> e & 1) == 1;
+            return isGood && !plan.lockedOut[slot] && !(plan.tracing && isOwn);
         }
 
         private void decide(int e) {
@@ -530,8 +542,8 @@ public final class ClockTree {
                 int slot = slotOf(e, port);
                 condition[e] = LOCKED;
                 everLocked |= 1 << e;
-                quality[e] = offeredQuality(slot);
-                hops[e] = offeredHops(slot);
+                quality[e] = offered.quality[slot];
+                hops[e] = offered.hops[slot];
             } else {
                 condition[e] = (everLocked >> e & 1) == 1 ? HOLDOVER : FREE;
                 quality[e] = NONE;
@@ -564,29 +576,13 @@ public final class ClockTree {
         }
 
         private boolean isBetter(int slot, int other) {
-            if (offeredQuality(slot) != offeredQuality(other)) {
-                return offeredQuality(slot) < offeredQuality(other);
+            if (offered.quality[slot] != offered.quality[other]) {
+                return offered.quality[slot] < offered.quality[other];
             }
-            if (offeredHops(slot) != offeredHops(other)) {
-                return offeredHops(slot) < offeredHops(other);
+            if (offered.hops[slot] != offered.hops[other]) {
+                return offered.hops[slot] < offered.hops[other];
             }
             return plan.priority[slot] < plan.priority[other];
-        }
-
-        private boolean hasSource(int slot) {
-            return plan.sourceQuality[slot] != NONE;
-        }
-
-        private int offeredQuality(int slot) {
-            return hasSource(slot) ? plan.sourceQuality[slot] : got.quality[slot];
-        }
-
-        private int offeredHops(int slot) {
-            return hasSource(slot) ? 0 : got.hops[slot];
-        }
-
-        private int offeredTrace(int slot) {
-            return hasSource(slot) ? 0 : got.trace[slot];
         }
 
         private void speak(int e) {
@@ -598,7 +594,7 @@ public final class ClockTree {
                 if (p == chosen[e]) {
                     sent.write(slot, DONT_USE, 0, 0);
                 } else if (isLocked(e)) {
-                    int trace = offeredTrace(slotOf(e, chosen[e])) | 1 << e;
+                    int trace = offered.trace[slotOf(e, chosen[e])] | 1 << e;
                     sent.write(slot, quality[e], hops[e] + 1, trace);
                 } else {
                     sent.write(slot, HELD + plan.quality[e], 0, 0);
@@ -630,7 +626,7 @@ public final class ClockTree {
             int reached = reachedFrom(start);
             int best = DONT_USE;
             for (int slot = 0; slot < SLOTS; slot++) {
-                if ((reached >> elementOf(slot) & 1) == 1 && hasSource(slot)) {
+                if ((reached >> elementOf(slot) & 1) == 1 && plan.hasSource(slot)) {
                     best = Math.min(best, plan.sourceQuality[slot]);
                 }
             }
@@ -676,7 +672,6 @@ public final class ClockTree {
         void start(int e, int offset) {
             now[e] = offset;
             before[e] = offset;
-            sum[e] = 0L;
         }
 
         void passRound(Plan plan, Flow flow) {
