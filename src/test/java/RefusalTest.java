@@ -83,7 +83,9 @@ public final class RefusalTest {
 
     /**
      * Elements 0 to 4 and 15, of which 4 is failed, and links 0 to 4, of which 2 is failed: 0, 1, 2
-     * in a ring, 3 beside it, 4 and 15 by themselves. Two words will be lost in the next round.
+     * in a ring, 3 beside it, 4 and 15 by themselves. Much is about to change: the words over links
+     * 0 and 1 were lost twice, that over link 0 will be lost a third time, and element 0 has a
+     * better source, which will be ready in the fourth round from here.
      */
     private static ClockTree busy() {
         ClockTree x = new ClockTree();
@@ -103,6 +105,7 @@ public final class RefusalTest {
         x.source(15, 0, 2, 5);
         x.priority(1, 0, 4);
         x.priority(3, 3, 9);
+        x.restore(0, 5);
         x.restore(1, 10);
         x.restore(2, 3);
         x.command(3, 1, 3);
@@ -113,16 +116,28 @@ public final class RefusalTest {
         x.rounds(1);
         x.failElement(4, true);
         x.lockout(15, 0, true);
-        x.rounds(2);
+        x.source(0, 2, 0, 60);
+        for (int i = 0; i < 2; i++) {
+            x.lose(0, false);
+            x.lose(1, false);
+            x.rounds(1);
+        }
         x.lose(0, false);
-        x.lose(1, true);
         x.check();
         return x;
     }
 
     private static void busyScene() {
-        due.is("the busy scene has findings", busy().check() > 0, true);
         int findings = busy().check();
+        due.is("the busy scene has findings", findings > 0, true);
+        ClockTree next = busy();
+        next.rounds(1);
+        due.is("element 1 loses its time", next.state(1, 0), 2);
+        due.is("element 2 keeps it", next.state(2, 0), 1);
+        next.rounds(2);
+        due.is("element 0 has its old source", next.state(0, 1), 3);
+        next.rounds(1);
+        due.is("element 0 has the better one", next.state(0, 1), 2);
         RefusalTest busy = new RefusalTest("busy", RefusalTest::busy);
         busy.elementValues(5);
         busy.elementValues(0);
@@ -331,9 +346,9 @@ public final class RefusalTest {
 
     private void takenPorts() {
         state("link from a link's first end", x -> x.link(0, 0, 1, 2));
-        state("link from a link's second end", x -> x.link(1, 0, 0, 2));
+        state("link from a link's second end", x -> x.link(1, 0, 3, 1));
         state("link to a link's first end", x -> x.link(1, 2, 0, 0));
-        state("link to a link's second end", x -> x.link(0, 2, 1, 0));
+        state("link to a link's second end", x -> x.link(3, 1, 1, 0));
         state("link of the same two ports again", x -> x.link(0, 0, 1, 0));
         state("link of the same two ports, turned", x -> x.link(1, 0, 0, 0));
         state("link from a failed link's port", x -> x.link(2, 1, 1, 2));
