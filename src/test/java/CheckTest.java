@@ -18,6 +18,9 @@ public final class CheckTest {
         asIf("usable rounds count", 3, 4, 2, CheckTest::usableRoundsCount);
         asIf("hops count", 3, 4, 1, CheckTest::hopsCount);
         asIf("ages count", 3, 3, 2, CheckTest::agesCount);
+        asIf("traces count", 4, 6, 1, CheckTest::tracesCount);
+        asIf("hops change late", 3, 3, 0, CheckTest::hopsChangeLate);
+        asIf("traces change late", 6, 7, 0, CheckTest::tracesChangeLate);
         for (int restore = 0; restore <= 10; restore++) {
             int n = restore;
             asIf("restore time of element 0", 16, 24, n, () -> restlessRing(0, n));
@@ -157,6 +160,58 @@ public final class CheckTest {
         x.lockout(2, 2, true);
         x.tracing(false);
         x.rounds(2);
+        return x;
+    }
+
+    /** Manual ports make the choices go to and fro for ever, although tracing is on. */
+    private static ClockTree tracesCount() {
+        ClockTree x = elements(4);
+        x.link(3, 3, 2, 1);
+        x.link(0, 3, 2, 2);
+        x.link(1, 3, 2, 0);
+        x.link(0, 0, 2, 3);
+        x.link(1, 1, 3, 0);
+        x.link(1, 2, 0, 2);
+        x.source(1, 0, 0, 0);
+        x.source(3, 2, 1, 0);
+        x.command(0, 1, 0);
+        x.command(1, 1, 3);
+        x.command(3, 1, 3);
+        x.lockout(2, 0, true);
+        x.priority(2, 1, 2);
+        x.restore(3, 1);
+        x.rounds(1);
+        return x;
+    }
+
+    // In the next two a round goes by in which all words are of the quality that they had before
+    // (in the second also of as many hops), and yet the net is not at rest.
+
+    private static ClockTree hopsChangeLate() {
+        ClockTree x = elements(3);
+        x.link(0, 0, 1, 1);
+        x.link(1, 2, 2, 2);
+        x.link(0, 1, 2, 3);
+        x.source(0, 3, 1, 0);
+        x.source(2, 0, 1, 0);
+        x.command(0, 1, 1);
+        x.rounds(9);
+        x.command(2, 0, 2);
+        return x;
+    }
+
+    private static ClockTree tracesChangeLate() {
+        ClockTree x = elements(6);
+        x.link(2, 0, 3, 1);
+        x.link(4, 3, 1, 2);
+        x.link(3, 3, 1, 0);
+        x.link(0, 3, 2, 3);
+        x.link(5, 2, 3, 0);
+        x.link(5, 3, 4, 2);
+        x.link(5, 0, 0, 0);
+        x.source(0, 2, 0, 0);
+        x.lockout(5, 2, true);
+        x.rounds(10);
         return x;
     }
 

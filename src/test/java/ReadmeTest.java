@@ -91,6 +91,8 @@ public final class ReadmeTest {
         for (int i = 0; i < parts.length; i++) {
             if (method.getParameterTypes()[i] == boolean.class) {
                 arguments[i] = Boolean.valueOf(parts[i]);
+            } else if (parts[i].equals("ClockTree.NONE")) {
+                arguments[i] = ClockTree.NONE;
             } else {
                 arguments[i] = Integer.valueOf(parts[i]);
             }
